@@ -57,7 +57,7 @@ public final class StairsInSteps {
     private final int[] purses = new int[FAMILIES];
     private final int[] division = new int[FAMILIES];
     private final Kept[] store = {new Kept(), new Kept()};
-    private final Exact exact = new Exact();
+    private final ByCost byCost = new ByCost();
     private final Feast revel = new Feast();
     private final int[] sumsNow = new int[3];
     private final int[] sumsThen = new int[3];
@@ -331,7 +331,7 @@ public final class StairsInSteps {
             return NONE;
         }
         one.routes.lay(one.load, one.vow, NONE);
-        long key = exact.easiest(one.routes);
+        long key = byCost.easiest(one.routes);
         if (key == NO_CLIMB) {
             return NO_WAY;
         }
@@ -345,8 +345,8 @@ public final class StairsInSteps {
             return NONE;
         }
         one.routes.lay(one.load, one.vow, NONE);
-        long number = exact.tally(one.routes, cost, NONE);
-        tellOne(exact.easiestWays);
+        long number = byCost.tally(one.routes, cost, NONE);
+        tellOne(byCost.easiestWays);
         return number;
     }
 
@@ -356,11 +356,11 @@ public final class StairsInSteps {
             return NONE;
         }
         one.routes.lay(one.load, one.vow, NONE);
-        long number = exact.tally(one.routes, cost, NONE);
+        long number = byCost.tally(one.routes, cost, NONE);
         if (number == 0) {
             return NO_WAY;
         }
-        tellFraction(exact.tally(one.routes, cost, step), number);
+        tellFraction(byCost.tally(one.routes, cost, step), number);
         return 0;
     }
 
@@ -373,7 +373,7 @@ public final class StairsInSteps {
             Pilgrim one = find(i);
             if (one != null) {
                 one.routes.lay(one.load, one.vow, NONE);
-                bits |= exact.tally(one.routes, spent, step) > 0 ? 1 << i : 0;
+                bits |= byCost.tally(one.routes, spent, step) > 0 ? 1 << i : 0;
             }
         }
         return bits;
@@ -385,7 +385,7 @@ public final class StairsInSteps {
             return NONE;
         }
         one.routes.lay(one.load, one.vow, NONE);
-        long key = exact.firstAbove(one.routes, cost);
+        long key = byCost.firstAbove(one.routes, cost);
         if (key == NO_CLIMB) {
             return NO_WAY;
         }
@@ -497,9 +497,12 @@ public final class StairsInSteps {
                 if (!flight.inFeud(a, b)) {
                     continue;
                 }
-                flight.quarrel(a, b, false);
-                sumUp(NONE, sumsThen);
-                flight.quarrel(a, b, true);
+                System.arraycopy(sumsNow, 0, sumsThen, 0, sumsNow.length);
+                if (flight.mindsFeud(a, b)) {
+                    flight.quarrel(a, b, false);
+                    sumUp(NONE, sumsThen);
+                    flight.quarrel(a, b, true);
+                }
                 if (sumsThen[0] >= sumsNow[0] && (found == NO_WAY || sumsThen[1] < least)) {
                     found = a * 10 + b;
                     least = sumsThen[1];
@@ -1163,6 +1166,7 @@ public final class StairsInSteps {
         private final int[] draft = new int[MOST_SIGNS];
         private final int[] stack = new int[MOST_SIGNS + 1];
         private int size = 0;
+        private int named = 0;
         private int drafted = 0;
         private int at = 0;
         private int limit = 0;
@@ -1170,6 +1174,10 @@ public final class StairsInSteps {
 
         boolean isTold() {
             return size > 0;
+        }
+
+        boolean names(int letter) {
+            return isTold() && (named >> letter & 1) != 0;
         }
 
         /** The text becomes the law: 0; -1 - p, if the sign at p can't stand there. */
@@ -1189,6 +1197,10 @@ public final class StairsInSteps {
             }
             System.arraycopy(draft, 0, code, 0, MOST_SIGNS);
             size = drafted;
+            named = 0;
+            for (int i = 0; i < size; i++) {
+                named |= code[i] >= LETTER && code[i] < SIGN ? 1 << code[i] - LETTER : 0;
+            }
             return 0;
         }
 
@@ -1400,34 +1412,66 @@ public final class StairsInSteps {
 
         int costOfMove(int from, int to, int load) {
             int leapt = to - from - 1;
-            int sum = has(to) ? priceIfAsked(TREADING, to, from, leapt, load, asks[to]) : 0;
+            int sum = priceOf(TREADING, to, from, leapt, load);
             for (int i = from + 1; i < to; i++) {
-                sum += has(i) ? priceIfAsked(LEAPING, i, from, leapt, load, asks[i]) : 0;
+                sum += priceOf(LEAPING, i, from, leapt, load);
             }
             return sum;
         }
 
         /** What a law says of a step that one comes to, or leaps over, from another or the ground; 0 on the ground. */
         int priceOf(int law, int step, int from, int leapt, int load) {
-            return has(step) ? priceIfAsked(law, step, from, leapt, load, asks[step]) : 0;
-        }
-
-        int priceIfAsked(int law, int step, int from, int leapt, int load, int asked) {
             Law told = law == TREADING ? treading : leaping;
             if (!has(step)) {
                 return 0;
             }
             if (!told.isTold()) {
-                return law == TREADING && widow[step] == 0 ? asked : 0;
+                return law == TREADING && widow[step] == 0 ? asks[step] : 0;
             }
-            letters[ASKS] = asked;
+            putLetters(step, from, leapt, load);
+            return told.priceFor(letters);
+        }
+
+        /** The same for all that a step may ask. */
+        void pricesInto(int[] prices, int law, int step, int from, int leapt, int load) {
+            Law told = law == TREADING ? treading : leaping;
+            boolean direct = !told.isTold() && law == TREADING;
+            int same = priceOf(law, step, from, leapt, load);
+            for (int v = 0; v < prices.length && has(step); v++) {
+                prices[v] = direct && widow[step] == 0 ? v : same;
+                if (told.names(ASKS)) {
+                    letters[ASKS] = v;
+                    prices[v] = told.priceFor(letters);
+                }
+            }
+        }
+
+        private void putLetters(int step, int from, int leapt, int load) {
+            if (!has(step)) {
+                return;
+            }
+            letters[ASKS] = asks[step];
             letters[RISE] = rise[step];
             letters[STATE] = state[step];
             letters[WIDOW] = widow[step];
             letters[FEUD] = has(from) && inFeud(shares.mainOf(step), shares.mainOf(from)) ? 1 : 0;
             letters[LOAD] = load;
             letters[LEAPT] = leapt;
-            return told.priceFor(letters);
+        }
+
+        /** Whether a price can hang on a feud: a law has to name it, and one move has to meet both families. */
+        boolean mindsFeud(int a, int b) {
+            boolean named = treading.names(FEUD) || leaping.names(FEUD);
+            for (int i = 0; i < size && named; i++) {
+                for (int k = i + 1; k < size && k <= i + LONGEST_LEAP; k++) {
+                    int lower = shares.mainOf(i);
+                    int upper = shares.mainOf(k);
+                    if (lower == a && upper == b || lower == b && upper == a) {
+                        return true;
+                    }
+                }
+            }
+            return false;
         }
     }
 
@@ -1609,6 +1653,7 @@ public final class StairsInSteps {
         private final Rows ending = new Rows();
         private final long[] offered = new long[MOST_ASKED + 1];
         private final int[] offeredPay = new int[MOST_ASKED + 1];
+        private final int[] prices = new int[MOST_ASKED + 1];
         private int load = 0;
         private int top = 0;
 
@@ -1750,41 +1795,23 @@ public final class StairsInSteps {
         }
 
         private void offerBy(int step, int from, int to) {
-            long joined = joinedBy(from, to);
-            if (joined == NO_CLIMB || !stairs.has(step)) {
+            int far = to - from;
+            long around = rising.leastJoined(from, ending, to, knees - effort[moveTo(to, far)]);
+            if (around == NO_CLIMB || !stairs.has(step)) {
                 return;
             }
             int law = to == step + 1 ? TREADING : LEAPING;
-            int leapt = to - from - 1;
-            int paidNow = stairs.priceIfAsked(law, step, from - 1, leapt, load, stairs.asks[step]);
-            long bare = joined - ((long) paidNow << COST_BIT);
+            stairs.pricesInto(prices, law, step, from - 1, far - 1, load);
+            int asked = stairs.asks[step];
+            int asPaidNow = isAsked(asked) ? prices[asked] : 0;
+            long bare = around + keyOf(to, far) - ((long) asPaidNow << COST_BIT);
             for (int v = 0; v <= MOST_ASKED; v++) {
-                int pay = stairs.priceIfAsked(law, step, from - 1, leapt, load, v);
-                long key = bare + ((long) pay << COST_BIT);
+                long key = bare + ((long) prices[v] << COST_BIT);
                 if (key < offered[v]) {
                     offered[v] = key;
-                    offeredPay[v] = pay;
+                    offeredPay[v] = prices[v];
                 }
             }
-        }
-
-        /** The best climb with a move: further on in either row, EFFORT is less. */
-        private long joinedBy(int from, int to) {
-            int left = knees - effort[moveTo(to, to - from)];
-            int ends = ending.sizeAt(to);
-            int end = ends;
-            long least = NO_CLIMB;
-            for (int i = 0; i < rising.sizeAt(from); i++) {
-                long key = rising.keyAt(from, i);
-                int rest = left - effortIn(key);
-                while (end > 0 && effortIn(ending.keyAt(to, end - 1)) <= rest) {
-                    end--;
-                }
-                if (end < ends) {
-                    least = Math.min(least, key + ending.keyAt(to, end));
-                }
-            }
-            return least == NO_CLIMB ? NO_CLIMB : least - NO_MOVES + keyOf(to, to - from);
         }
     }
 
@@ -1869,6 +1896,31 @@ public final class StairsInSteps {
             }
         }
 
+        /**
+         * The least key of one of a place here and one of a place of other rows, within an EFFORT. Both rows go from the
+         * cheapest to the easiest: the further on in one, the less far one has to go in the other.
+         */
+        long leastJoined(int place, Rows others, int to, int mostEffort) {
+            int last = others.sizeAt(to);
+            int at = last;
+            long least = NO_CLIMB;
+            long cheapest = others.keyAt(to, 0) - NO_MOVES;
+            for (int i = 0; i < sizeAt(place) && last > 0; i++) {
+                long key = keys[first[place] + i];
+                if (key + cheapest >= least) {
+                    return least;
+                }
+                int rest = mostEffort - effortIn(key);
+                while (at > 0 && effortIn(others.keyAt(to, at - 1)) <= rest) {
+                    at--;
+                }
+                if (at < last) {
+                    least = Math.min(least, key + others.keyAt(to, at) - NO_MOVES);
+                }
+            }
+            return least;
+        }
+
         /** Of those merged, no key is kept that has another ahead of it with no more EFFORT. */
         void keepCheapest(int place, int mostEffort, int mostCost) {
             int limit = mostEffort;
@@ -1911,7 +1963,7 @@ public final class StairsInSteps {
     }
 
     /** Climbs by what they cost to the copper. In its rows a key has, in place of MOVES and STEPS, how many ways there are. */
-    private static final class Exact {
+    private static final class ByCost {
         private static final int WORDS = 16;
 
         private final Rows rows = new Rows();
