@@ -56,6 +56,7 @@ public final class StairsInSteps {
     private int toldPilgrims = 0;
     private final int[] purses = new int[FAMILIES];
     private final int[] division = new int[FAMILIES];
+    private final int[] remainders = new int[FAMILIES];
     private final Kept[] store = {new Kept(), new Kept()};
     private final ByCost byCost = new ByCost();
     private final Feast revel = new Feast();
@@ -833,19 +834,18 @@ public final class StairsInSteps {
             return;
         }
         int left = coppers;
-        int[] rests = flight.rests;
         for (int i = 0; i < FAMILIES; i++) {
-            rests[i] = coppers * division[i] % parts;
+            remainders[i] = coppers * division[i] % parts;
             division[i] = coppers * division[i] / parts;
             left -= division[i];
         }
         for (int given = 0; given < left && given < FAMILIES; given++) {
             int most = 0;
             for (int i = 1; i < FAMILIES; i++) {
-                most = rests[i] > rests[most] ? i : most;
+                most = remainders[i] > remainders[most] ? i : most;
             }
             division[most]++;
-            rests[most] = -1;
+            remainders[most] = -1;
         }
     }
 
@@ -1357,7 +1357,6 @@ public final class StairsInSteps {
         private final Law treading = new Law();
         private final Law leaping = new Law();
         private final int[] letters = new int[LEAPT + 1];
-        private final int[] rests = new int[FAMILIES];
         private int size = 0;
 
         void build(StairsReader from) {
@@ -1389,7 +1388,7 @@ public final class StairsInSteps {
         }
 
         boolean inFeud(int a, int b) {
-            return isFamily(a) && (feuds[a] >> b & 1) != 0;
+            return a >= 0 && a < FAMILIES && (feuds[a] >> b & 1) != 0;
         }
 
         int sumOfFeuds() {
@@ -1435,14 +1434,15 @@ public final class StairsInSteps {
         /** The same for all that a step may ask. */
         void pricesInto(int[] prices, int law, int step, int from, int leapt, int load) {
             Law told = law == TREADING ? treading : leaping;
-            boolean direct = !told.isTold() && law == TREADING;
-            int same = priceOf(law, step, from, leapt, load);
-            for (int v = 0; v < prices.length && has(step); v++) {
-                prices[v] = direct && widow[step] == 0 ? v : same;
-                if (told.names(ASKS)) {
-                    letters[ASKS] = v;
-                    prices[v] = told.priceFor(letters);
-                }
+            if (!has(step)) {
+                return;
+            }
+            boolean direct = law == TREADING && !told.isTold() && widow[step] == 0;
+            putLetters(step, from, leapt, load);
+            int same = told.priceFor(letters);
+            for (int v = 0; v < prices.length; v++) {
+                letters[ASKS] = v;
+                prices[v] = direct ? v : told.names(ASKS) ? told.priceFor(letters) : same;
             }
         }
 
