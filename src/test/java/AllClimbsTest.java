@@ -67,8 +67,7 @@ public final class AllClimbsTest {
                 owner[steps] = o;
             }
         }
-        tell(sb.toString());
-        due("stairs() of " + sb, x.stairs(), n);
+        due("stairs() of " + sb, Tell.stairs(x, sb.toString()), n);
         for (int i = 0; i < n; i++) {
             if (random.nextInt(2) == 0) {
                 asks[i] = in(0, 20);
@@ -89,10 +88,8 @@ public final class AllClimbsTest {
             }
         }
         kind = random.nextInt(LAWS.length);
-        tell(LAWS[kind][0]);
-        due("law(0)", x.law(0), 0);
-        tell(LAWS[kind][1]);
-        due("law(1)", x.law(1), 0);
+        due("law(0)", Tell.law(x, 0, LAWS[kind][0]), 0);
+        due("law(1)", Tell.law(x, 1, LAWS[kind][1]), 0);
         knees = in(80, 120);
         purse = random.nextBoolean() ? 999 : in(50, 400);
         leap = seed % 3 == 0 ? 3 : in(1, 3);
@@ -123,18 +120,6 @@ public final class AllClimbsTest {
             wrong++;
             System.out.println("seed " + seed + ": " + call + " answered " + got + ", due is " + want);
         }
-    }
-
-    private void tell(String text) {
-        x.end(0);
-        for (int i = 0; i < text.length(); i += 4) {
-            int v = 0;
-            for (int k = 0; k < 4; k++) {
-                v = v << 8 | (i + k < text.length() ? text.charAt(i + k) : 0);
-            }
-            x.sign(v);
-        }
-        x.end(text.length());
     }
 
     private int price(int law, int step, int from, int j) {

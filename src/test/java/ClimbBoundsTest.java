@@ -48,6 +48,17 @@ public final class ClimbBoundsTest {
         x.vow(3, 2);
         Due.is("1 and 2 are forsworn", x.climb(3), 8);
         Due.row(x, 2 + 6 + 10, 2, 0, 3);
+        // to 1 by a leap: 1 with 7, by both: 2 with 6; from there by a leap: 1 with 7, by both: 21 with 2
+        StairsInSteps close = Tell.with("1,5,1@0;1,9,1@0;1,9,20@0;1,9,1@0");
+        close.pilgrim(14, 99, 2, 0);
+        close.pilgrim(13, 99, 2, 0);
+        close.pilgrim(12, 99, 2, 0);
+        Due.is("two leaps", close.climb(0), 2);
+        Due.row(close, 14, 2, 1, 3);
+        Due.is("the upper leap", close.climb(1), 3);
+        Due.row(close, 13, 3, 0, 1, 3);
+        Due.is("the lower leap", close.climb(2), 22);
+        Due.row(close, 9, 3, 1, 2, 3);
         Due.sentence(19, "of equal ones the least EFFORT, then the fewest MOVES, then the least row of STEPS: COST");
         StairsInSteps y = Tell.with("1,9,0@0*3");
         y.pilgrim(60, 0, 3, 0);
@@ -77,6 +88,10 @@ public final class ClimbBoundsTest {
         for (int i = 0; i < 24; i++) {
             Due.is("STEP", most.row(2 + i), i);
         }
+        StairsInSteps leaps = Tell.with("1,9,1@0*24");
+        leaps.pilgrim(104, 8, 3, 0);
+        Due.is("8 MOVES", leaps.climb(0), 8);
+        Due.row(leaps, 24 + 16 * 5, 8, 2, 5, 8, 11, 14, 17, 20, 23);
         most.pilgrim(120, 0, 3, 0);
         most.sheet(2, 24, 1, 0);
         Due.is("a PURSE of 0", most.climb(1), -2);
@@ -132,6 +147,13 @@ public final class ClimbBoundsTest {
         x.vow(0, 1);
         Due.is("without 0", x.knees(0), 13);
         Due.row(x, 5);
+        StairsInSteps close = Tell.with("1,5,1@0;1,9,1@0");
+        close.pilgrim(1, 2, 2, 0);
+        close.pilgrim(1, 1, 2, 0);
+        Due.is("one less, though it costs more", close.knees(0), 6);
+        Due.row(close, 2);
+        Due.is("a leap", close.knees(1), 7);
+        Due.row(close, 1);
         Due.sentence(20, "the ROW: the least COST of those with so much");
         // by 0 and 2 or by 1 and 2 it is as hard, if 0 and 1 are both worn by 9
         StairsInSteps z = Tell.with("1,0,7@0;1,0,3@0;1,9,0@0");
@@ -194,6 +216,27 @@ public final class ClimbBoundsTest {
         Due.is("998 of 999", y.ways(0, 998), 0);
         Due.row(y, 0);
         Due.is("999 of 998", y.ways(1, 999), 0);
+        StairsInSteps late = Tell.with("1,9,9@0;1,9,0@0*10");
+        Tell.law(late, 0, "(a=0)*99+a");
+        late.pilgrim(11, 999, 1, 0);
+        Due.is("999, of which 990 come last", late.ways(0, 999), 1);
+        int[] prices = {1, 31, 32, 33, 62, 63, 64, 65, 66, 98, 99};
+        for (int price : prices) {
+            StairsInSteps alike = Tell.with("1,9,0@0*10");
+            Tell.law(alike, 0, "" + price);
+            Tell.law(alike, 1, "" + price);
+            alike.pilgrim(120, 999, 3, 0);
+            // trodden or leapt over, each costs as much
+            Due.is("10 times " + price, alike.ways(0, 10 * price), 274);
+            Due.row(alike, 1);
+            Due.is("1 less", alike.ways(0, 10 * price - 1), 0);
+            Due.is("1 more", alike.ways(0, 10 * price + 1), 0);
+            Tell.law(alike, 1, "");
+            // what is leapt over is free: as many MOVES as are paid for
+            Due.is("10 MOVES", alike.ways(0, 10 * price), 1);
+            Due.is("9 MOVES", alike.ways(0, 9 * price), 9);
+            Due.is("3 MOVES are too few", alike.ways(0, 3 * price), 0);
+        }
         Due.sentence(21, "the ROW: of how many of them the EFFORT is the least");
         StairsInSteps z = Tell.with("1,9,1@0;1,4,1@0;1,9,1@0;1,9,1@0");
         z.pilgrim(20, 9, 2, 0);

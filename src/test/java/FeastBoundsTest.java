@@ -100,9 +100,23 @@ public final class FeastBoundsTest {
         Due.row(y, 0, -1, 3);
         Due.is("feast(2)", y.feast(2), 3);
         Due.row(y, 1, 2, 2);
+        // 0 goes by 0 and 2, 1 by 1 and 2: it is higher and comes to 2 first
+        StairsInSteps z = Tell.with("1,9,0@0;1,9,0@1;1,9,0@2;1,9,0@2");
+        z.pilgrim(60, 99, 2, 0);
+        z.pilgrim(60, 99, 2, 0);
+        z.vow(0, 2);
+        z.vow(1, 1);
+        Due.is("the first one waits", z.feast(1), 4);
+        Due.row(z, 1, 0, 1);
+        // one feast leaves nothing for the next
+        StairsInSteps v = crowd("1,9,0@0*2", 3, 1);
+        Due.is("on two STEPS", v.feast(1), 4);
+        Tell.stairs(v, "1,9,0@0*3");
+        Due.is("on three STEPS", v.feast(1), 5);
+        Due.row(v, 2, 2, 1);
         Due.sentence(43, "Nothing changes");
-        Twins.asks("feast(1)", z -> z.feast(1));
-        Twins.asks("feast(6)", z -> z.feast(6));
+        Twins.asks("feast(1)", t -> t.feast(1));
+        Twins.asks("feast(6)", t -> t.feast(6));
     }
 
     private static void feastOthers() {
@@ -127,6 +141,8 @@ public final class FeastBoundsTest {
             + "of equal ones the first: it; the ROW: how many");
         StairsInSteps x = crowd("1,9,0@0*3", 6, 1);
         Due.is("jam", x.jam(), 0);
+        Due.row(x, 1 + 2 + 3 + 4 + 5);
+        Due.is("and again", x.jam(), 0);
         Due.row(x, 1 + 2 + 3 + 4 + 5);
         StairsInSteps y = Tell.with("1,9,5@0;1,9,0@0;1,9,5@0;1,9,0@0");
         y.pilgrim(60, 99, 1, 0);

@@ -7,6 +7,7 @@ public final class LongRunsTest {
     /** 600,000 objects take 9.6 million bytes at least, 7.3 million elements 7.3 million. */
     private static final long MOST_BYTES = 4_000_000;
     private static final long MOST_MILLIS = 60_000;
+    private static final String STAIRS = "1,9,3@0*3;1,8,7@1*3;2,9,2@2*3;1,7,9@3*3;1,9,8@4*3;1,9,4@5*3;1,8,5@6*6";
     private static final String[][] LAWS = {
         {"", ""},
         {"a*r*7/3+j*(s-2)*x-(l+1)*-w+a*a/(x+2)+j", "a/2+j*3+x*(r+s)"},
@@ -47,27 +48,13 @@ public final class LongRunsTest {
         }
     }
 
-    private static void tell(StairsInSteps x, String text) {
-        x.end(0);
-        for (int i = 0; i < text.length(); i += 4) {
-            int v = 0;
-            for (int k = 0; k < 4; k++) {
-                v = v << 8 | (i + k < text.length() ? text.charAt(i + k) : 0);
-            }
-            x.sign(v);
-        }
-        x.end(text.length());
-    }
-
     private static StairsInSteps build(String[] laws) {
         StairsInSteps x = new StairsInSteps();
-        tell(x, "1,9,3@0*3;1,8,7@1*3;2,9,2@2*3;1,7,9@3*3;1,9,8@4*3;1,9,4@5*3;1,8,5@6*6");
-        if (x.stairs() != 24) {
+        if (Tell.stairs(x, STAIRS) != 24) {
             throw new IllegalStateException("stairs");
         }
         for (int i = 0; i < 2; i++) {
-            tell(x, laws[i]);
-            if (x.law(i) != 0) {
+            if (Tell.law(x, i, laws[i]) != 0) {
                 throw new IllegalStateException("law");
             }
         }
@@ -139,10 +126,8 @@ public final class LongRunsTest {
 
     private static long texts(StairsInSteps x, int i) {
         if (i % 2 == 0) {
-            tell(x, "1,9,3@0*3;1,8,7@1*3;2,9,2@2*3;1,7,9@3*3;1,9,8@4*3;1,9,4@5*3;1,8,5@6*6");
-            return x.stairs();
+            return Tell.stairs(x, STAIRS);
         }
-        tell(x, "((((a)+r)*s)-w)+((((a)+r)*s)-w)*----x+j");
-        return x.law(i / 2 % 2);
+        return Tell.law(x, i / 2 % 2, "((((a)+r)*s)-w)+((((a)+r)*s)-w)*----x+j");
     }
 }

@@ -121,6 +121,11 @@ public final class PartsBoundsTest {
         Due.is("no SALE", x.count(3), 2);
         Due.is("one heir", x.dies(7, 64), 153 + 360 + 153);
         Due.is("no STEPS", noSteps().dies(0, 2), 0);
+        StairsInSteps one = crumbs();
+        int sales = one.count(3);
+        Due.is("one PART to FAMILY 0", one.dies(4, 1), 1);
+        Due.is("a SALE", one.count(3), sales + 1);
+        Due.is("it has one more", one.parts(3, 0), 641);
         StairsInSteps y = Tell.with("1,9,3@7*24");
         Due.is("all of 24", y.dies(7, 127), 17280);
         dueParts(y, 23, 103, 103, 103, 103, 103, 103, 102, 0);
@@ -248,6 +253,9 @@ public final class PartsBoundsTest {
 
     private static void rules() {
         Due.sentence(42, "The fewest FAMILIES who together have more than half of PARTS of a STEP (what 0)");
+        StairsInSteps first = Tell.with("1,9,3@0*2");
+        Due.is("the first has all", first.rules(0, 0), 1);
+        Due.row(first, 1);
         StairsInSteps x = Tell.with("1,9,3@5;1,9,3@7");
         Due.is("one has all", x.rules(0, 0), 1);
         Due.row(x, 32);

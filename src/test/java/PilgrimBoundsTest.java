@@ -174,6 +174,7 @@ public final class PilgrimBoundsTest {
         Due.is("over 2 to 3, which asks nothing", x.tread(0, 3), 5);
         Due.is("led to the STEP leapt over", x.earned(2), 5);
         Due.is("nothing to the one come to", x.earned(3), 0);
+        Due.is("nor to others", x.count(4), 13 + 5);
         StairsInSteps y = Tell.with("5,9,0@0*2");
         y.pilgrim(60, 0, 1, 0);
         Due.is("for nothing", y.tread(0, 0), 0);

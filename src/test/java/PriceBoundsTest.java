@@ -172,12 +172,15 @@ public final class PriceBoundsTest {
         x.pilgrim(60, 25, 1, 0);
         Due.is("25 less 6", x.toll(0), 19);
         Due.row(x, 2);
+        x.pilgrim(60, 7, 1, 0);
+        Due.is("7 less 6", x.toll(0), 1);
         x.pilgrim(60, 6, 1, 0);
         Due.is("6 less 6", x.toll(0), 0);
-        Due.row(x, 3);
+        Due.row(x, 4);
         x.pilgrim(60, 5, 1, 0);
         Due.is("5 is too little anyhow", x.toll(0), 0);
-        Due.row(x, 3);
+        Due.row(x, 4);
+        dueByKnees((t, step) -> t.toll(step), 20, 20);
         StairsInSteps y = Tell.with("1,9,3@0;1,9,3@1;1,9,3@2");
         y.pilgrim(60, 40, 1, 0);
         Tell.law(y, 0, "20-a");
@@ -213,6 +216,27 @@ public final class PriceBoundsTest {
         // 1, 11, 11 and 22: without 6 and 7 it is 1, 11, 11, 2
         Due.is("67", x.peace(), 67);
         Due.row(x, 25, 1);
+        StairsInSteps far = Tell.with("1,9,20@5;1,9,0@1;1,9,0@2;1,9,20@3");
+        far.pilgrim(60, 99, 3, 0);
+        far.vow(0, 2 + 4);
+        far.feud(4, 7, true);
+        far.feud(3, 5, true);
+        Tell.law(far, 0, "a+x*9");
+        // from 0 it has to leap to 3, where a less FAMILY is above a greater one
+        Due.is("two leapt over lie between them", far.peace(), 35);
+        Due.row(far, 40, 1);
+        StairsInSteps near = Tell.with("1,9,20@5;1,9,20@3");
+        near.pilgrim(60, 99, 1, 0);
+        near.feud(5, 3, true);
+        Tell.law(near, 0, "a+x*9");
+        Due.is("with FEUD", near.all(), 49);
+        Due.is("a less FAMILY above a greater one", near.peace(), 35);
+        Due.row(near, 40, 1);
+        Tell.law(far, 0, "a");
+        Tell.law(far, 1, "x*9");
+        far.feud(1, 5, true);
+        Due.is("one leapt over", far.peace(), 15);
+        Due.row(far, 40, 1);
         Due.sentence(32, "of those with which as many or more have a climb() as now");
         Tell.law(x, 0, "(1-x)*30");
         // in FEUD it is free: 30 now; without one of them 60
@@ -247,6 +271,10 @@ public final class PriceBoundsTest {
         y.feud(1, 0, true);
         Due.is("1", y.peace(), 1);
         Due.row(y, 2, 1);
+        y.set(0, 0, 20);
+        y.set(1, 0, 20);
+        Due.is("COSTS are compared", y.peace(), 1);
+        Due.row(y, 40, 1);
         Due.sentence(32, "Nothing changes");
         Twins.asks("peace", t -> t.peace());
     }
@@ -325,6 +353,21 @@ public final class PriceBoundsTest {
         Twins.asks("lamps", t -> t.lamps(1));
     }
 
+    private interface OfAStep {
+        int ask(StairsInSteps x, int step);
+    }
+
+    /** What is told of STEP 0, if a PILGRIM has just enough KNEES, and if it has one less. */
+    private static void dueByKnees(OfAStep call, int enough, int oneLess) {
+        for (int less = 0; less < 2; less++) {
+            StairsInSteps x = Tell.with("10,9,3@0;10,5,3@1;10,9,3@2");
+            x.pilgrim(34 - less, 99, 1, 0);
+            for (int step = 0; step < 3; step++) {
+                Due.is("KNEES " + (34 - less), call.ask(x, step), less == 0 ? enough : oneLess);
+            }
+        }
+    }
+
     private static void would() {
         Due.sentence(34, "What a STEP would be paid in climb() of all PILGRIMS (LAW 0 as trodden, LAW 1 as leapt over), "
             + "if it asked v (0 .. 20): it");
@@ -344,6 +387,43 @@ public final class PriceBoundsTest {
         Due.is("leapt over", x.would(0, 4), 4 + 4 + 8);
         Tell.law(x, 0, "99");
         Due.is("nobody has a CLIMB", x.would(0, 4), 0);
+        dueByKnees((t, step) -> t.would(step, 5), 5, 0);
+        // by 1 3: 2 with 14; by 0 1 3: 3 with 13; by 1 2 3: 22 with 9
+        int[] byKnees = {0, 1, 0};
+        for (int less = 0; less < 3; less++) {
+            StairsInSteps close = Tell.with("1,5,1@0;1,9,1@0;1,9,20@0;1,9,1@0");
+            close.pilgrim(14 - less, 99, 2, 0);
+            Due.is("would(0, 1) of KNEES " + (14 - less), close.would(0, 1), byKnees[less]);
+            Due.is("would(1, 1) of KNEES " + (14 - less), close.would(1, 1), 1);
+            Due.is("would(2, 20) of KNEES " + (14 - less), close.would(2, 20), less == 2 ? 20 : 0);
+            Due.is("would(3, 1) of KNEES " + (14 - less), close.would(3, 1), 1);
+            close.pilgrim(14 - less, 3, 2, 0);
+            Due.is("toll(2) of a PURSE of 3 and KNEES " + (14 - less), close.toll(2), less == 2 ? 1 : 20);
+        }
+        StairsInSteps y = Tell.with("1,9,3@0;1,9,3@1;1,9,3@2");
+        y.pilgrim(120, 999, 1, 4);
+        y.feud(0, 1, true);
+        Tell.law(y, 0, "a+x*10+l+j*50");
+        Due.is("from the ground", y.would(0, 7), 7 + 4);
+        Due.is("in FEUD", y.would(1, 7), 7 + 10 + 4);
+        Due.is("not in FEUD", y.would(2, 7), 7 + 4);
+        StairsInSteps z = Tell.with("1,9,3@0;1,9,3@1;1,9,3@2");
+        z.pilgrim(120, 999, 2, 0);
+        z.vow(0, 2);
+        z.feud(0, 1, true);
+        Tell.law(z, 0, "a+j*9");
+        Tell.law(z, 1, "a+j*20+x*7");
+        Due.is("without a leap", z.would(0, 7), 7);
+        Due.is("leapt over, in FEUD", z.would(1, 7), 7 + 20 + 7);
+        Due.is("with a leap", z.would(2, 7), 7 + 9);
+        // to tread 0 costs as much as to leap over it, and is as hard: 12 with 7
+        StairsInSteps even = Tell.with("1,4,0@0;1,9,0@1");
+        even.pilgrim(60, 99, 2, 0);
+        Tell.law(even, 0, "a+5-j*2");
+        Tell.law(even, 1, "a+7");
+        Due.is("the fewest MOVES", even.would(0, 2), 2 + 7);
+        Tell.law(even, 1, "a+8");
+        Due.is("the least COST", even.would(0, 2), 2 + 5);
         Twins.refused("it tells no ROW", Twins.rich().would(1, 3), t -> t.would(1, 3));
         Due.sentence(34, "NONE: others");
         for (int s : NO_STEP) {
@@ -384,6 +464,11 @@ public final class PriceBoundsTest {
         y.pilgrim(60, 5, 1, 0);
         Due.is("5 of 5", y.best(0), 5);
         Due.row(y, 5);
+        StairsInSteps z = Tell.with("1,9,3@0;1,9,3@1w");
+        z.pilgrim(60, 1, 1, 0);
+        Due.is("1 of 1", z.best(0), 1);
+        Due.row(z, 1);
+        dueByKnees((t, step) -> t.best(step), 20, 0);
         Due.is("a WIDOW's is paid nothing", y.best(1), 0);
         Due.row(y, 0);
         Due.sentence(35, "NONE: none such");

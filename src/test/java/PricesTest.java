@@ -43,34 +43,19 @@ public final class PricesTest {
         }
     }
 
-    private static void tell(StairsInSteps it, String text) {
-        it.end(0);
-        for (int i = 0; i < text.length(); i += 4) {
-            int v = 0;
-            for (int k = 0; k < 4; k++) {
-                v = v << 8 | (i + k < text.length() ? text.charAt(i + k) : 0);
-            }
-            it.sign(v);
-        }
-        it.end(text.length());
-    }
-
     private void build(StairsInSteps it, Random dice) {
         n = 6 + dice.nextInt(19);
         StringBuilder sb = new StringBuilder();
         int half = n / 2;
         sb.append(1 + dice.nextInt(3)).append(",9,").append(dice.nextInt(6)).append("@0*").append(half).append(';');
         sb.append(1 + dice.nextInt(2)).append(",8,").append(dice.nextInt(6)).append("@1w*").append(n - half);
-        tell(it, sb.toString());
-        due("stairs()", it.stairs(), n);
+        due("stairs()", Tell.stairs(it, sb.toString()), n);
         for (int i = 0; i < n; i++) {
             it.set(i, 0, dice.nextInt(9));
             it.sells(i, i < half ? 0 : 1, dice.nextInt(8), 9, 9);
         }
-        tell(it, LAWS[kind][0]);
-        due("law(0)", it.law(0), 0);
-        tell(it, LAWS[kind][1]);
-        due("law(1)", it.law(1), 0);
+        due("law(0)", Tell.law(it, 0, LAWS[kind][0]), 0);
+        due("law(1)", Tell.law(it, 1, LAWS[kind][1]), 0);
         pilgrims = 1 + dice.nextInt(6);
         for (int i = 0; i < pilgrims; i++) {
             it.pilgrim(60 + dice.nextInt(61), 10 + dice.nextInt(150), 1 + dice.nextInt(3), dice.nextInt(4));

@@ -80,38 +80,6 @@ public final class PromisesTest {
         }
     }
 
-    private static void tell(StairsInSteps x, String text) {
-        x.end(0);
-        for (int i = 0; i < text.length(); i += 4) {
-            int v = 0;
-            for (int k = 0; k < 4; k++) {
-                v = v << 8 | (i + k < text.length() ? text.charAt(i + k) : 0);
-            }
-            x.sign(v);
-        }
-        x.end(text.length());
-    }
-
-    private static StairsInSteps with(String text) {
-        StairsInSteps x = new StairsInSteps();
-        tell(x, text);
-        int steps = x.stairs();
-        if (steps < 2) {
-            due("stairs of " + text, steps, 2);
-        }
-        return x;
-    }
-
-    private static int law(StairsInSteps x, int i, String text) {
-        tell(x, text);
-        return x.law(i);
-    }
-
-    private static int stairs(StairsInSteps x, String text) {
-        tell(x, text);
-        return x.stairs();
-    }
-
     private static boolean stepThrows(StairsInSteps x, int step, int what) {
         try {
             x.step(step, what);
@@ -137,14 +105,6 @@ public final class PromisesTest {
         } catch (NoSuchElementException e) {
             return true;
         }
-    }
-
-    private static String times(String part, int n) {
-        StringBuilder sb = new StringBuilder();
-        for (int i = 0; i < n; i++) {
-            sb.append(part);
-        }
-        return sb.toString();
     }
 
     private static void newObject() {
@@ -186,7 +146,7 @@ public final class PromisesTest {
     private static void stairsRight() {
         promise = "4";
         StairsInSteps x = new StairsInSteps();
-        due("two", stairs(x, "1,0,0@0;30,9,20@7w"), 2);
+        due("two", Tell.stairs(x, "1,0,0@0;30,9,20@7w"), 2);
         due("rise", x.step(0, 0), 1);
         due("state", x.step(0, 1), 0);
         due("asks", x.step(0, 2), 0);
@@ -198,24 +158,24 @@ public final class PromisesTest {
         due("widow", x.step(1, 3), 1);
         due("main", x.step(1, 4), 7);
         due("parts", x.parts(1, 7), 720);
-        due("leading noughts", stairs(x, "05,09,07@3w*02"), 2);
+        due("leading noughts", Tell.stairs(x, "05,09,07@3w*02"), 2);
         due("rise", x.step(1, 0), 5);
         due("state", x.step(1, 1), 9);
         due("asks", x.step(1, 2), 7);
-        due("24", stairs(x, "5,9,1@0*24"), 24);
-        due("1 and 23", stairs(x, "5,9,1@0;4,9,1@0*23"), 24);
+        due("24", Tell.stairs(x, "5,9,1@0*24"), 24);
+        due("1 and 23", Tell.stairs(x, "5,9,1@0;4,9,1@0*23"), 24);
         due("lowest first", x.step(0, 0), 5);
         due("upper", x.step(23, 0), 4);
-        due("one alone", stairs(x, "5,9,1@0"), -100);
-        due("one, once", stairs(x, "5,9,1@0*1"), -100);
-        due("none", stairs(x, ""), -100);
+        due("one alone", Tell.stairs(x, "5,9,1@0"), -100);
+        due("one, once", Tell.stairs(x, "5,9,1@0*1"), -100);
+        due("none", Tell.stairs(x, ""), -100);
         due("they are as they were", x.count(0), 24);
-        String long76 = times("10,9,10@0;", 6) + "10,9,10@0w*17;9,";
+        String long76 = Tell.times("10,9,10@0;", 6) + "10,9,10@0w*17;9,";
         due("76 signs", long76.length(), 76);
-        due("76 signs that end too early", stairs(x, long76), -77);
-        String right76 = "1,1,10@0;" + times("10,9,1@0;", 6) + "10,9,10@1w*17";
+        due("76 signs that end too early", Tell.stairs(x, long76), -77);
+        String right76 = "1,1,10@0;" + Tell.times("10,9,1@0;", 6) + "10,9,10@1w*17";
         due("76 signs", right76.length(), 76);
-        due("76 signs", stairs(x, right76), 24);
+        due("76 signs", Tell.stairs(x, right76), 24);
     }
 
     private static void stairsWrong() {
@@ -236,7 +196,8 @@ public final class PromisesTest {
             10, 9, 6,
         };
         for (int i = 0; i < texts.length; i++) {
-            due("stairs() of " + texts[i], stairs(x, texts[i]), -1 - faults[i]);
+            x = new StairsInSteps();
+            due("stairs() of " + texts[i], Tell.stairs(x, texts[i]), -1 - faults[i]);
             due("the text is gone", x.count(7), 0);
         }
         due("no stairs", x.count(0), 0);
@@ -246,46 +207,46 @@ public final class PromisesTest {
         promise = "4, 76 signs";
         StairsInSteps x = new StairsInSteps();
         // 7 lines of 10 signs are 70, then the rest
-        String seventy = times("10,9,10@0;", 7);
-        due("could end, has more", stairs(x, seventy + "1,9,1@0;1,9"), -77);
-        due("could go on", stairs(x, seventy + "1,9,1@0w*2"), -77);
-        due("wrong ahead of 76", stairs(x, seventy + "1,9,xx@0;1"), -75);
-        due("wrong behind 76 is not looked at", stairs(x, seventy + "1,9,1@xxxx"), -77);
-        due("wrong at 75", stairs(x, seventy + "1,9,1xxxxx"), -76);
-        String line75 = times("10,9,10@0;", 6) + "10,9,10@0w*01;";
+        String seventy = Tell.times("10,9,10@0;", 7);
+        due("could end, has more", Tell.stairs(x, seventy + "1,9,1@0;1,9"), -77);
+        due("could go on", Tell.stairs(x, seventy + "1,9,1@0w*2"), -77);
+        due("wrong ahead of 76", Tell.stairs(x, seventy + "1,9,xx@0;1"), -75);
+        due("wrong behind 76 is not looked at", Tell.stairs(x, seventy + "1,9,1@xxxx"), -77);
+        due("wrong at 75", Tell.stairs(x, seventy + "1,9,1xxxxx"), -76);
+        String line75 = Tell.times("10,9,10@0;", 6) + "10,9,10@0w*01;";
         due("74 signs", line75.length(), 74);
-        due("a number is cut at 76", stairs(x, line75 + "10,9"), -77);
-        String upTo75 = times("10,9,10@0;", 6) + "10,9,10@0w*011";
-        due("third digit", stairs(x, upTo75), -1 - 73);
-        String to75 = times("10,9,10@0;", 6) + "10,9,10@0w*01;;";
+        due("a number is cut at 76", Tell.stairs(x, line75 + "10,9"), -77);
+        String upTo75 = Tell.times("10,9,10@0;", 6) + "10,9,10@0w*011";
+        due("third digit", Tell.stairs(x, upTo75), -1 - 73);
+        String to75 = Tell.times("10,9,10@0;", 6) + "10,9,10@0w*01;;";
         due("75 signs", to75.length(), 75);
-        due("an empty line", stairs(x, to75 + "0"), -1 - 74);
-        String cut = times("10,9,10@0;", 6) + "10,09,10@0w*01;";
+        due("an empty line", Tell.stairs(x, to75 + "0"), -1 - 74);
+        String cut = Tell.times("10,9,10@0;", 6) + "10,09,10@0w*01;";
         due("75 signs", cut.length(), 75);
         // the digit at 75 is all of the number that stands in the first 76
-        due("a rise 0 at 75, though 05 would be right", stairs(x, cut + "05,9"), -1 - 75);
-        due("a rise 3 at 75, though 35 would be wrong", stairs(x, cut + "35,9"), -77);
-        String fullUp = times("10,9,10@0;", 6) + "10,09,10@0w*18;";
-        due("24 ahead", stairs(x, fullUp + "5,9,"), -1 - 75);
+        due("a rise 0 at 75, though 05 would be right", Tell.stairs(x, cut + "05,9"), -1 - 75);
+        due("a rise 3 at 75, though 35 would be wrong", Tell.stairs(x, cut + "35,9"), -77);
+        String fullUp = Tell.times("10,9,10@0;", 6) + "10,09,10@0w*18;";
+        due("24 ahead", Tell.stairs(x, fullUp + "5,9,"), -1 - 75);
     }
 
     private static void stairsForget() {
         promise = "4, what is gone";
-        StairsInSteps x = with("5,9,2@0*3");
+        StairsInSteps x = Tell.with("5,9,2@0*3");
         x.pilgrim(60, 30, 2, 0);
         x.vow(0, 128);
         x.feud(1, 2, true);
-        law(x, 1, "a");
+        Tell.law(x, 1, "a");
         x.tread(0, 0);
         x.sells(0, 0, 1, 1, 2);
         x.keep(0);
-        due("a wrong text changes nothing", stairs(x, "5,9,2@0*"), -9);
+        due("a wrong text changes nothing", Tell.stairs(x, "5,9,2@0*"), -9);
         due("of(0,0)", x.of(0, 0), 0);
         due("count(3)", x.count(3), 1);
         due("again(0)", x.again(0), true);
         x.sells(0, 0, 1, 1, 2);
         x.earned(0);
-        due("stairs()", stairs(x, "5,9,2@3*2"), 2);
+        due("stairs()", Tell.stairs(x, "5,9,2@3*2"), 2);
         dueRow(x, 1620);
         due("of(0,0)", x.of(0, 0), -1);
         due("of(0,1)", x.of(0, 1), 60);
@@ -306,17 +267,18 @@ public final class PromisesTest {
         StairsInSteps x = new StairsInSteps();
         String[] right = {
             "a", "999", "0", "000", "((((a))))", "(a)*(b-a)".replace('b', 'r'), "--a", "a---r", "-(-a)", "a<r", "(a<r)<s", "a<(r<s)",
-            "a*-r", "a/-0", "(a<r)=(s>w)", "x+l+j", times("-", 39) + "a", times("(a)+", 9) + "(a)",
+            "a*-r", "a/-0", "(a<r)=(s>w)", "x+l+j", Tell.times("-", 39) + "a", Tell.times("(a)+", 9) + "(a)",
         };
         for (String text : right) {
-            due("law(0) of " + text, law(x, 0, text), 0);
-            due("law(1) of " + text, law(x, 1, text), 0);
+            x = new StairsInSteps();
+            due("law(0) of " + text, Tell.law(x, 0, text), 0);
+            due("law(1) of " + text, Tell.law(x, 1, text), 0);
             due("count(2)", x.count(2), 3);
             due("count(7)", x.count(7), 0);
         }
-        due("law(0) of nothing", law(x, 0, ""), 0);
+        due("law(0) of nothing", Tell.law(x, 0, ""), 0);
         due("count(2)", x.count(2), 2);
-        due("law(1) of nothing", law(x, 1, ""), 0);
+        due("law(1) of nothing", Tell.law(x, 1, ""), 0);
         due("count(2)", x.count(2), 0);
     }
 
@@ -325,9 +287,9 @@ public final class PromisesTest {
         StairsInSteps x = new StairsInSteps();
         String[] texts = {
             "b", "+a", "a+", "a b", "()", "(a", "a)", "(a))", "(((((", "1000", "a<r<s", "a<r+s=w", "(a<r>s)", "a<", "-", "a**r", "1a", "a1",
-            "aa", "(a)(r)", "a(", "1(", ")", times("-", 40), times("-", 41), times("a+", 20), times("a+", 19) + "a)",
-            times("a+", 19) + "aa", times("a+", 19) + "aaa", times("a+", 19) + "a+a", times("a+", 19) + "10000", times("a+", 19) + "ab",
-            times("a+", 20) + "a", times("a+", 19) + "+" + "a", times("(a)+", 9) + "(a)*", "a" + (char) 233, "\0", "A",
+            "aa", "(a)(r)", "a(", "1(", ")", Tell.times("-", 40), Tell.times("-", 41), Tell.times("a+", 20), Tell.times("a+", 19) + "a)",
+            Tell.times("a+", 19) + "aa", Tell.times("a+", 19) + "aaa", Tell.times("a+", 19) + "a+a", Tell.times("a+", 19) + "10000", Tell.times("a+", 19) + "ab",
+            Tell.times("a+", 20) + "a", Tell.times("a+", 19) + "+" + "a", Tell.times("(a)+", 9) + "(a)*", "a" + (char) 233, "\0", "A",
         };
         int[] faults = {
             0, 0, 2, 1, 1, 2, 1, 3, 4, 3, 3, 5, 4, 2, 1, 2, 1, 1,
@@ -336,24 +298,25 @@ public final class PromisesTest {
             40, 38, 40, 1, 0, 0,
         };
         for (int i = 0; i < texts.length; i++) {
-            due("law(0) of " + texts[i], law(x, 0, texts[i]), -1 - faults[i]);
+            x = new StairsInSteps();
+            due("law(0) of " + texts[i], Tell.law(x, 0, texts[i]), -1 - faults[i]);
             due("count(7)", x.count(7), 0);
         }
         due("count(2)", x.count(2), 0);
-        due("law(0)", law(x, 0, "a"), 0);
-        due("a wrong one leaves it", law(x, 0, "a+"), -3);
+        due("law(0)", Tell.law(x, 0, "a"), 0);
+        due("a wrong one leaves it", Tell.law(x, 0, "a+"), -3);
         due("count(2)", x.count(2), 1);
-        due("law(2) asked first", law(x, 2, "a+"), -100);
+        due("law(2) asked first", Tell.law(x, 2, "a+"), -100);
         due("its text is gone", x.count(7), 0);
-        due("law(-1)", law(x, -1, ""), -100);
+        due("law(-1)", Tell.law(x, -1, ""), -100);
         due("count(2)", x.count(2), 1);
     }
 
     /** One pilgrim on the ground ahead of a step with RISE 5, STATE 7, ASKS 3, a WIDOW's. */
     private static int worth(String text) {
-        StairsInSteps x = with("5,7,3@0w*2");
+        StairsInSteps x = Tell.with("5,7,3@0w*2");
         x.pilgrim(100, 100, 3, 4);
-        due("law of " + text, law(x, 0, text), 0);
+        due("law of " + text, Tell.law(x, 0, text), 0);
         return x.costs(0, 0);
     }
 
@@ -372,22 +335,22 @@ public final class PromisesTest {
         for (int i = 0; i < texts.length; i++) {
             due("worth of " + texts[i], worth(texts[i]), due[i]);
         }
-        StairsInSteps x = with("5,7,3@0;5,7,4@1;6,8,5@2;5,9,6@0w");
+        StairsInSteps x = Tell.with("5,7,3@0;5,7,4@1;6,8,5@2;5,9,6@0w");
         x.pilgrim(120, 500, 3, 10);
         due("no law, leapt ones are free", x.costs(0, 2), 5);
         x.feud(0, 1, true);
         x.feud(2, 0, true);
-        law(x, 0, "x*10+j");
-        law(x, 1, "x*20+a");
+        Tell.law(x, 0, "x*10+j");
+        Tell.law(x, 1, "x*20+a");
         due("from the ground no feud", x.costs(0, 2), 2 + 3 + 4);
         dueRow(x, 16 * 20 / 10 + 1 + 10, 2);
         due("tread", x.tread(0, 0), 0);
         due("feud with the step come to", x.costs(0, 1), 10);
         due("feud with the one leapt over, too", x.costs(0, 2), 10 + 1 + 20 + 4);
         due("two leapt over", x.costs(0, 3), 2 + 20 + 4 + 20 + 5);
-        law(x, 0, "");
+        Tell.law(x, 0, "");
         due("a widow's asks nothing without a law", x.costs(0, 3), 20 + 4 + 20 + 5);
-        law(x, 0, "a");
+        Tell.law(x, 0, "a");
         due("with a law it does", x.costs(0, 3), 6 + 20 + 4 + 20 + 5);
     }
 
@@ -397,7 +360,7 @@ public final class PromisesTest {
 
     private static void stepAndSet() {
         promise = "6, 7";
-        StairsInSteps x = with("5,7,3@2w;6,8,4@3");
+        StairsInSteps x = Tell.with("5,7,3@2w;6,8,4@3");
         int[] first = {5, 7, 3, 1, 2};
         int[] second = {6, 8, 4, 0, 3};
         for (int what = 0; what < 5; what++) {
@@ -431,7 +394,7 @@ public final class PromisesTest {
 
     private static void sheet() {
         promise = "8";
-        StairsInSteps x = with("5,7,3@0*4");
+        StairsInSteps x = Tell.with("5,7,3@0*4");
         due("ints", x.sheet(2, 3, 5, 9), 5 + 14 + 20);
         due("the last asks nothing", x.step(3, 2), 0);
         due("more than there are", x.sheet(2, 24, 1, 1), 1 + 2 + 3 + 4);
@@ -457,7 +420,7 @@ public final class PromisesTest {
 
     private static void feudAndWears() {
         promise = "9, 10";
-        StairsInSteps x = with("5,7,3@0;5,2,3@1");
+        StairsInSteps x = Tell.with("5,7,3@0;5,2,3@1");
         due("feud", x.feud(0, 7, true), true);
         due("feud again", x.feud(7, 0, true), true);
         due("count(5)", x.count(5), 1);
@@ -502,7 +465,7 @@ public final class PromisesTest {
 
     private static void of() {
         promise = "13";
-        StairsInSteps x = with("5,9,3@0*4");
+        StairsInSteps x = Tell.with("5,9,3@0*4");
         x.pilgrim(50, 40, 2, 10);
         x.vow(0, 6);
         x.tread(0, 1);
@@ -518,7 +481,7 @@ public final class PromisesTest {
 
     private static void costs() {
         promise = "14";
-        StairsInSteps x = with("5,9,1@0;7,4,2@0;3,0,4@0;4,9,8@0");
+        StairsInSteps x = Tell.with("5,9,1@0;7,4,2@0;3,0,4@0;4,9,8@0");
         x.pilgrim(5, 0, 3, 3);
         due("costs", x.costs(0, 0), 1);
         dueRow(x, 6, 0);
@@ -541,9 +504,9 @@ public final class PromisesTest {
 
     private static void tread() {
         promise = "15, division";
-        StairsInSteps x = with("5,9,7@0;5,9,7@1;5,9,20@2;5,9,0@3");
+        StairsInSteps x = Tell.with("5,9,7@0;5,9,7@1;5,9,20@2;5,9,0@3");
         x.pilgrim(60, 30, 3, 0);
-        law(x, 1, "j*5");
+        Tell.law(x, 1, "j*5");
         x.sells(0, 0, 4, 1, 3);
         x.sells(0, 0, 5, 1, 2);
         // step 0: family 0 has 240, 4 has 240, 5 has 240; 5 coppers are 2, 2, 1
@@ -566,7 +529,7 @@ public final class PromisesTest {
         due("-3 ahead of -5", x.tread(0, 2), -3);
         x.vow(0, 0);
         due("nothing changed", x.of(0, 2), 18);
-        StairsInSteps y = with("30,9,20@0*2");
+        StairsInSteps y = Tell.with("30,9,20@0*2");
         y.pilgrim(29, 19, 1, 0);
         y.vow(0, 1);
         due("-2 first", y.tread(0, 1), -2);
@@ -583,9 +546,9 @@ public final class PromisesTest {
 
     private static void rests() {
         promise = "16";
-        StairsInSteps x = with("20,9,7@0;20,9,7@1");
+        StairsInSteps x = Tell.with("20,9,7@0;20,9,7@1");
         x.pilgrim(50, 25, 1, 3);
-        law(x, 0, "a+j*50+x*50+l");
+        Tell.law(x, 0, "a+j*50+x*50+l");
         x.feud(0, 1, true);
         due("on the ground", x.rests(0, 1), 0);
         due("as told at most", x.of(0, 1), 50);
@@ -604,7 +567,7 @@ public final class PromisesTest {
 
     private static void returnsAndEarned() {
         promise = "17, 18";
-        StairsInSteps x = with("20,9,7@0;20,9,7@1;5,9,1@0");
+        StairsInSteps x = Tell.with("20,9,7@0;20,9,7@1;5,9,1@0");
         x.pilgrim(50, 25, 1, 0);
         x.tread(0, 0);
         x.tread(0, 1);
@@ -627,7 +590,7 @@ public final class PromisesTest {
 
     private static void climb() {
         promise = "19";
-        StairsInSteps x = with("2,9,5@0;2,9,1@1;2,9,1@1;2,9,3@2");
+        StairsInSteps x = Tell.with("2,9,5@0;2,9,1@1;2,9,1@1;2,9,3@2");
         x.pilgrim(60, 99, 2, 0);
         // by 1 and 3 it costs 4, by 1, 2, 3 it costs 5
         due("least cost", x.climb(0), 4);
@@ -652,7 +615,7 @@ public final class PromisesTest {
         x.tread(1, 0);
         due("from the ground all the same", x.climb(1), 5);
         // equal costs: least effort; equal efforts: fewest moves; then the least row
-        StairsInSteps y = with("1,9,0@0;1,9,0@0;1,4,0@0;1,9,0@0;1,9,0@0");
+        StairsInSteps y = Tell.with("1,9,0@0;1,9,0@0;1,4,0@0;1,9,0@0;1,9,0@0");
         y.pilgrim(60, 0, 2, 0);
         due("equal costs", y.climb(0), 0);
         dueRow(y, 10, 4, 0, 1, 3, 4);
@@ -661,7 +624,7 @@ public final class PromisesTest {
         y.set(3, 1, 4);
         due("equal efforts", y.climb(0), 0);
         dueRow(y, 15, 3, 0, 2, 4);
-        StairsInSteps z = with("1,4,0@0;1,4,0@0;1,9,0@0");
+        StairsInSteps z = Tell.with("1,4,0@0;1,4,0@0;1,9,0@0");
         z.pilgrim(60, 0, 2, 0);
         due("equal moves", z.climb(0), 0);
         dueRow(z, 3 + 10, 2, 0, 2);
@@ -669,7 +632,7 @@ public final class PromisesTest {
 
     private static void knees() {
         promise = "20";
-        StairsInSteps x = with("2,9,5@0;2,9,1@1;2,9,1@1;2,9,3@2");
+        StairsInSteps x = Tell.with("2,9,5@0;2,9,1@1;2,9,1@1;2,9,3@2");
         x.pilgrim(1, 99, 2, 0);
         due("whatever knees are", x.knees(0), 8);
         dueRow(x, 10);
@@ -685,7 +648,7 @@ public final class PromisesTest {
         due("vow", x.knees(0), -2);
         due("none such", x.knees(4), -1);
         dueRow(x, 4);
-        StairsInSteps y = with("30,9,0@0*5;15,0,0@0;1,9,0@0");
+        StairsInSteps y = Tell.with("30,9,0@0*5;15,0,0@0;1,9,0@0");
         y.pilgrim(1, 0, 1, 50);
         due("900 + 90 + 9 + 6", y.knees(0), -2);
         y.set(5, 1, 6);
@@ -696,7 +659,7 @@ public final class PromisesTest {
 
     private static void waysAndTrod() {
         promise = "21, 22";
-        StairsInSteps x = with("1,9,0@0*24");
+        StairsInSteps x = Tell.with("1,9,0@0*24");
         x.pilgrim(120, 0, 3, 0);
         // 24 = 3 * 8; leaps over 16 steps at most
         due("all ways", x.ways(0, 0), 1389537);
@@ -718,7 +681,7 @@ public final class PromisesTest {
         due("trod", x.trod(0, 0, 24), -1);
         due("trod", x.trod(0, 0, -1), -1);
         dueRow(x, 0);
-        StairsInSteps y = with("1,9,1@0;1,4,1@0;1,9,1@0;1,9,1@0");
+        StairsInSteps y = Tell.with("1,9,1@0;1,4,1@0;1,9,1@0;1,9,1@0");
         y.pilgrim(20, 9, 2, 0);
         // two leaps over: 1 3, none else of 2; three steps: 0 1 3 with 14, 0 2 3 with 9, 1 2 3 with 14; four: 9
         due("ways(0,2)", y.ways(0, 2), 1);
@@ -741,7 +704,7 @@ public final class PromisesTest {
 
     private static void whoAndNext() {
         promise = "23, 24";
-        StairsInSteps x = with("1,9,2@0;1,9,4@0;1,9,1@0");
+        StairsInSteps x = Tell.with("1,9,2@0;1,9,4@0;1,9,1@0");
         x.pilgrim(20, 9, 1, 0);
         x.pilgrim(20, 9, 2, 0);
         x.pilgrim(20, 4, 3, 0);
@@ -774,20 +737,20 @@ public final class PromisesTest {
 
     private static void bears() {
         promise = "25";
-        StairsInSteps x = with("5,9,2@0;5,9,2@0");
+        StairsInSteps x = Tell.with("5,9,2@0;5,9,2@0");
         x.pilgrim(20, 9, 2, 40);
         // by both: (5 * (10 + load) / 10) * 2 is 20 at most up to 5 * 21 / 10 = 10; by a leap: 10 * (10 + load) / 10 + 5
         due("bears", x.bears(0), 11);
         dueRow(x, 4);
         due("as it was", x.of(0, 4), 40);
-        law(x, 0, "(l<20)*50");
+        Tell.law(x, 0, "(l<20)*50");
         x.pilgrim(100, 9, 2, 0);
         due("with less it need not", x.bears(1), 50);
         dueRow(x, 0);
-        law(x, 0, "(l>20)*50+l");
+        Tell.law(x, 0, "(l>20)*50+l");
         due("by a leap it is less", x.bears(1), 9);
         dueRow(x, 9);
-        law(x, 0, "50");
+        Tell.law(x, 0, "50");
         due("with none", x.bears(1), -2);
         due("none such", x.bears(2), -1);
         dueRow(x, 9);
@@ -795,7 +758,7 @@ public final class PromisesTest {
 
     private static void breaks() {
         promise = "26";
-        StairsInSteps x = with("1,9,5@0;1,9,1@1;1,9,3@2;1,9,0@3");
+        StairsInSteps x = Tell.with("1,9,5@0;1,9,1@1;1,9,3@2;1,9,0@3");
         x.pilgrim(60, 99, 2, 0);
         due("no vow", x.breaks(0), -2);
         x.vow(0, 1 + 2 + 16);
@@ -820,7 +783,7 @@ public final class PromisesTest {
 
     private static void allWholeShut() {
         promise = "27, 28, 30";
-        StairsInSteps x = with("2,9,5@0;2,3,1@1;2,9,3@2");
+        StairsInSteps x = Tell.with("2,9,5@0;2,3,1@1;2,9,3@2");
         due("nobody", x.all(), 0);
         dueRow(x, 0, 0);
         x.pilgrim(60, 99, 2, 0);
@@ -852,7 +815,7 @@ public final class PromisesTest {
 
     private static void mends() {
         promise = "29";
-        StairsInSteps x = with("7,4,5@0;2,3,1@1");
+        StairsInSteps x = Tell.with("7,4,5@0;2,3,1@1");
         x.sells(0, 0, 3, 1, 2);
         due("mends", x.mends(0), 35);
         due("of equal rests the first pays", x.earned(0), -18);
@@ -866,7 +829,7 @@ public final class PromisesTest {
 
     private static void toll() {
         promise = "31";
-        StairsInSteps x = with("1,9,3@0;1,9,3@1;1,9,3@2");
+        StairsInSteps x = Tell.with("1,9,3@0;1,9,3@1;1,9,3@2");
         due("nobody", x.toll(0), 20);
         dueRow(x, 0);
         x.pilgrim(60, 14, 1, 0);
@@ -881,7 +844,7 @@ public final class PromisesTest {
         dueRow(x, 3);
         due("none such", x.toll(3), -1);
         due("as it was", x.step(2, 2), 3);
-        law(x, 0, "20-a");
+        Tell.law(x, 0, "20-a");
         x.set(1, 0, 20);
         x.set(2, 0, 20);
         // the first pilgrim climbs if 6 or more is asked
@@ -891,7 +854,7 @@ public final class PromisesTest {
 
     private static void peace() {
         promise = "32";
-        StairsInSteps x = with("1,9,1@0;1,9,1@1;1,9,1@2;1,9,1@3");
+        StairsInSteps x = Tell.with("1,9,1@0;1,9,1@1;1,9,1@2;1,9,1@3");
         x.pilgrim(60, 99, 1, 0);
         due("no feud", x.peace(), -2);
         x.feud(4, 5, true);
@@ -899,22 +862,22 @@ public final class PromisesTest {
         dueRow(x, 4, 1);
         x.feud(6, 5, true);
         x.feud(2, 1, true);
-        law(x, 0, "a+x*(r+10)");
+        Tell.law(x, 0, "a+x*(r+10)");
         due("12", x.peace(), 12);
         dueRow(x, 4, 1);
         x.feud(3, 2, true);
-        law(x, 0, "a+x*a*10");
+        Tell.law(x, 0, "a+x*a*10");
         x.set(3, 0, 2);
         due("23 is dearer", x.peace(), 23);
         dueRow(x, 1 + 1 + 11 + 2, 1);
         due("they stay", x.count(5), 4);
-        law(x, 0, "60-x*60");
+        Tell.law(x, 0, "60-x*60");
         x.feud(0, 1, true);
         x.pilgrim(60, 119, 1, 0);
         // in feuds 0 1, 1 2, 2 3 all but the first are free
         due("as many have one as now", x.peace(), 45);
         dueRow(x, 120, 2);
-        law(x, 0, "30-x*30");
+        Tell.law(x, 0, "30-x*30");
         x.feud(4, 5, false);
         x.feud(5, 6, false);
         x.pilgrim(60, 30, 1, 0);
@@ -923,7 +886,7 @@ public final class PromisesTest {
 
     private static void lamps() {
         promise = "33";
-        StairsInSteps x = with("1,9,1@0*10");
+        StairsInSteps x = Tell.with("1,9,1@0*10");
         due("lamps(0)", x.lamps(0), 10);
         dueRow(x, 0, 1, 2, 3, 4, 5, 6, 7, 8, 9);
         due("lamps(1)", x.lamps(1), 4);
@@ -941,14 +904,14 @@ public final class PromisesTest {
         due("lamps(24)", x.lamps(24), -1);
         due("lamps(-1)", x.lamps(-1), -1);
         dueRow(x, 9);
-        stairs(x, "1,9,1@0*24");
+        Tell.stairs(x, "1,9,1@0*24");
         due("lamps(0)", x.lamps(0), 24);
         due("the last", x.row(23), 23);
     }
 
     private static void wouldAndBest() {
         promise = "34, 35";
-        StairsInSteps x = with("1,9,3@0;1,9,3@1;1,9,3@2");
+        StairsInSteps x = Tell.with("1,9,3@0;1,9,3@1;1,9,3@2");
         due("nobody", x.best(0), 0);
         dueRow(x, 0);
         x.pilgrim(60, 99, 1, 0);
@@ -961,7 +924,7 @@ public final class PromisesTest {
         dueRow(x, 20);
         x.vow(1, 2);
         due("leapt over it gets nothing", x.would(1, 7), 7);
-        law(x, 1, "a");
+        Tell.law(x, 1, "a");
         due("leapt over it is owed", x.would(1, 7), 14);
         due("as it was", x.step(1, 2), 3);
         due("would(0,21)", x.would(0, 21), -1);
@@ -969,8 +932,8 @@ public final class PromisesTest {
         due("would(3,0)", x.would(3, 0), -1);
         due("best(3)", x.best(3), -1);
         due("best(-1)", x.best(-1), -1);
-        StairsInSteps y = with("1,9,3@0;1,9,3@1;1,9,3@2w");
-        law(y, 1, "a");
+        StairsInSteps y = Tell.with("1,9,3@0;1,9,3@1;1,9,3@2w");
+        Tell.law(y, 1, "a");
         y.pilgrim(60, 17, 1, 0);
         y.pilgrim(60, 11, 2, 0);
         // both pay by 0, 1 and 2 up to 8, one alone up to 14
@@ -980,13 +943,13 @@ public final class PromisesTest {
         dueRow(y, 16);
         due("of equal ones the least", y.best(2), 0);
         dueRow(y, 0);
-        law(y, 0, "a*0+7");
+        Tell.law(y, 0, "a*0+7");
         due("of equal ones the least", y.best(0), 0);
     }
 
     private static void market() {
         promise = "36";
-        StairsInSteps x = with("1,9,0@0*2");
+        StairsInSteps x = Tell.with("1,9,0@0*2");
         x.pilgrim(60, 10, 1, 0);
         due("market(0)", x.market(0), -1);
         due("market(4)", x.market(4), -1);
@@ -1001,19 +964,19 @@ public final class PromisesTest {
         x.set(0, 0, 2);
         due("market(2)", x.market(2), 1);
         dueRow(x, 1, 10);
-        StairsInSteps y = with("1,9,5@0w;1,9,0@0");
+        StairsInSteps y = Tell.with("1,9,5@0w;1,9,0@0");
         y.pilgrim(60, 10, 1, 0);
         due("what is paid as well stays", y.market(3), 1);
         dueRow(y, 1, 15);
         due("asks", y.step(0, 2), 5);
-        StairsInSteps z = with("1,9,7@0*24");
+        StairsInSteps z = Tell.with("1,9,7@0*24");
         due("nobody", z.market(3), 0);
         dueRow(z, 1, 168);
     }
 
     private static void sells() {
         promise = "37, 38";
-        StairsInSteps x = with("1,9,3@0;1,9,3@1");
+        StairsInSteps x = Tell.with("1,9,3@0;1,9,3@1");
         due("sells", x.sells(0, 0, 1, 1, 7), 102);
         due("parts", x.parts(0, 0), 618);
         due("parts", x.parts(0, 1), 102);
@@ -1042,7 +1005,7 @@ public final class PromisesTest {
 
     private static void dies() {
         promise = "39";
-        StairsInSteps x = with("1,9,3@0;1,9,3@1;1,9,3@0");
+        StairsInSteps x = Tell.with("1,9,3@0;1,9,3@1;1,9,3@0");
         due("dies", x.dies(0, 254), 1440);
         due("parts", x.parts(0, 1), 103);
         due("parts", x.parts(0, 6), 103);
@@ -1070,7 +1033,7 @@ public final class PromisesTest {
 
     private static void undo() {
         promise = "40";
-        StairsInSteps x = with("1,9,3@0*2");
+        StairsInSteps x = Tell.with("1,9,3@0*2");
         due("nothing", x.undo(), -1);
         int[] left = new int[10];
         for (int i = 0; i < 10; i++) {
@@ -1091,7 +1054,7 @@ public final class PromisesTest {
 
     private static void rail() {
         promise = "41";
-        StairsInSteps x = with("1,9,3@0;1,9,3@1*2");
+        StairsInSteps x = Tell.with("1,9,3@0;1,9,3@1*2");
         due("rail(10)", x.rail(10), 2);
         dueRow(x, 3, 7, 0, 0, 0, 0, 0, 0);
         due("rail(1)", x.rail(1), 1);
@@ -1106,14 +1069,14 @@ public final class PromisesTest {
         x.dies(1, 4 + 8);
         due("equal rests: the first", x.rail(5), 3);
         dueRow(x, 2, 0, 2, 1, 0, 0, 0, 0);
-        stairs(x, "1,9,3@7*24");
+        Tell.stairs(x, "1,9,3@7*24");
         due("rail(9999)", x.rail(9999), 1);
         dueRow(x, 0, 0, 0, 0, 0, 0, 0, 9999);
     }
 
     private static void rules() {
         promise = "42";
-        StairsInSteps x = with("1,9,3@0*2;1,9,3@1;1,9,3@2");
+        StairsInSteps x = Tell.with("1,9,3@0*2;1,9,3@1;1,9,3@2");
         due("one has all", x.rules(0, 3), 1);
         dueRow(x, 4);
         x.sells(0, 0, 5, 1, 2);
@@ -1141,7 +1104,7 @@ public final class PromisesTest {
 
     private static void feast() {
         promise = "43";
-        StairsInSteps x = with("10,9,0@0*3");
+        StairsInSteps x = Tell.with("10,9,0@0*3");
         due("nobody", x.feast(1), 0);
         dueRow(x, 0, -1, 0);
         x.pilgrim(60, 20, 1, 0);
@@ -1160,7 +1123,7 @@ public final class PromisesTest {
         dueRow(x, 0, -1, 3);
         due("nobody moved", x.of(0, 0), -1);
         // who leaps passes by
-        StairsInSteps y = with("1,9,5@0;1,9,0@0;1,9,5@0;1,9,0@0");
+        StairsInSteps y = Tell.with("1,9,5@0;1,9,0@0;1,9,5@0;1,9,0@0");
         y.pilgrim(60, 99, 1, 0);
         y.pilgrim(60, 99, 2, 0);
         y.pilgrim(60, 99, 2, 0);
@@ -1176,7 +1139,7 @@ public final class PromisesTest {
 
     private static void jam() {
         promise = "44";
-        StairsInSteps x = with("1,9,5@0;1,9,0@0;1,9,5@0;1,9,0@0");
+        StairsInSteps x = Tell.with("1,9,5@0;1,9,0@0;1,9,5@0;1,9,0@0");
         due("nobody", x.jam(), -2);
         x.pilgrim(60, 99, 1, 0);
         due("alone", x.jam(), -2);
@@ -1187,7 +1150,7 @@ public final class PromisesTest {
         x.pilgrim(60, 99, 2, 0);
         due("jam", x.jam(), 1);
         dueRow(x, 2);
-        StairsInSteps y = with("1,9,0@0*3");
+        StairsInSteps y = Tell.with("1,9,0@0*3");
         y.pilgrim(60, 99, 1, 0);
         y.pilgrim(60, 99, 1, 0);
         due("jam", y.jam(), 0);
@@ -1196,7 +1159,7 @@ public final class PromisesTest {
 
     private static void keepAndAgain() {
         promise = "45, 46";
-        StairsInSteps x = with("5,9,3@0;5,8,3@1;5,9,3@2");
+        StairsInSteps x = Tell.with("5,9,3@0;5,8,3@1;5,9,3@2");
         x.pilgrim(60, 30, 2, 0);
         due("nothing kept", x.again(0), false);
         due("keep(2)", x.keep(2), false);
@@ -1211,7 +1174,7 @@ public final class PromisesTest {
         x.tread(0, 1);
         x.vow(0, 9);
         x.feud(1, 2, true);
-        law(x, 0, "a");
+        Tell.law(x, 0, "a");
         due("pilgrim", x.pilgrim(50, 20, 2, 0), 1);
         x.tread(1, 1);
         due("keep(1)", x.keep(1), true);
@@ -1242,9 +1205,9 @@ public final class PromisesTest {
         due("where", x.of(0, 0), 0);
         due("again(2)", x.again(2), false);
         due("again(-1)", x.again(-1), false);
-        due("wrong stairs", stairs(x, "5"), -2);
+        due("wrong stairs", Tell.stairs(x, "5"), -2);
         due("again(0)", x.again(0), true);
-        due("other stairs", stairs(x, "5,9,3@0;5,8,3@1;5,9,3@2"), 3);
+        due("other stairs", Tell.stairs(x, "5,9,3@0;5,8,3@1;5,9,3@2"), 3);
         due("again(0)", x.again(0), false);
         due("again(1)", x.again(1), false);
         due("keep(1)", x.keep(1), true);
@@ -1254,13 +1217,13 @@ public final class PromisesTest {
 
     private static void countAndRow() {
         promise = "47, 48";
-        StairsInSteps x = with("5,9,3@0;5,8,3@1;5,9,3@2");
+        StairsInSteps x = Tell.with("5,9,3@0;5,8,3@1;5,9,3@2");
         x.pilgrim(60, 30, 2, 0);
         x.tread(0, 0);
         x.sells(0, 0, 1, 1, 2);
         x.feud(0, 1, true);
         x.feud(5, 1, true);
-        law(x, 1, "3");
+        Tell.law(x, 1, "3");
         x.rail(3);
         x.sign(0);
         int[] due = {3, 1, 2, 1, 3, 2, 8, 4};
@@ -1327,7 +1290,7 @@ public final class PromisesTest {
         dueRow(x, 0);
         due("keep", x.keep(0), true);
         due("again", x.again(0), true);
-        due("stairs", stairs(x, "1,9,1@0*2"), 2);
+        due("stairs", Tell.stairs(x, "1,9,1@0*2"), 2);
         due("again", x.again(0), false);
     }
 
@@ -1358,7 +1321,7 @@ public final class PromisesTest {
 
     private static void refusedChangesNothing() {
         promise = "refused";
-        StairsInSteps x = with("5,9,3@0;5,8,3@1w;5,9,3@2");
+        StairsInSteps x = Tell.with("5,9,3@0;5,8,3@1w;5,9,3@2");
         x.pilgrim(60, 30, 2, 0);
         x.pilgrim(10, 30, 1, 0);
         x.tread(0, 1);

@@ -188,7 +188,7 @@ public final class StairsBoundsTest {
         for (String[] one : STAIRS_GO_ON) {
             int calls = 0;
             StairsInSteps x = new StairsInSteps();
-            for (int sign = 0; sign < 256; sign++, calls += 8) {
+            for (int sign = 0; sign < 256; sign++, calls += 12) {
                 x = calls % 480 == 0 ? new StairsInSteps() : x;
                 boolean stands = one[1].indexOf(sign) >= 0;
                 int answer = Tell.stairs(x, one[0] + (char) sign);
@@ -216,6 +216,14 @@ public final class StairsBoundsTest {
         Twins.emptied("stairs() of " + full, -77, full, x -> x.stairs());
     }
 
+    private static int stairsOf(String text) {
+        return Tell.stairs(new StairsInSteps(), text);
+    }
+
+    private static int lawOf(String text) {
+        return Tell.law(new StairsInSteps(), 0, text);
+    }
+
     /** Right stairs of so many signs (7 or more). */
     private static String right(int signs) {
         String[] lines = {
@@ -227,17 +235,15 @@ public final class StairsBoundsTest {
 
     private static void stairsMoreThan76() {
         Due.sentence(4, "76, if it has more and the first 76 could go on or end");
-        StairsInSteps x = new StairsInSteps();
         for (int signs = 15; signs <= 80; signs++) {
             String text = right(signs);
             Due.is("its length", text.length(), signs);
-            Due.is(signs + " signs", Tell.stairs(x, text), signs > 76 ? -77 : (signs - 7) / 8 + 1);
+            Due.is(signs + " signs", stairsOf(text), signs > 76 ? -77 : (signs - 7) / 8 + 1);
         }
         String[] tails = {"x", ";", "xx", "xxxx", ",", "0", "9", "*", "\0"};
         for (String tail : tails) {
             Twins.emptied("76 right ones and " + tail, -77, right(76) + tail, y -> y.stairs());
         }
-        StairsInSteps z = new StairsInSteps();
         for (String[] one : STAIRS_GO_ON) {
             int length = one[0].length();
             if (one[0].startsWith("1,9,1@0*1") || one[0].startsWith("1,9,1@0*2")) {
@@ -245,13 +251,13 @@ public final class StairsBoundsTest {
             }
             String text = right(75 - length) + ";" + one[0];
             Due.is("its length", text.length(), 76);
-            Due.is("76 that end with " + one[0] + " and xx", Tell.stairs(z, text + "xx"), -77);
-            Due.is("76 that end with " + one[0] + " and 4", Tell.stairs(z, text + "4"), -77);
+            Due.is("76 that end with " + one[0] + " and xx", stairsOf(text + "xx"), -77);
+            Due.is("76 that end with " + one[0] + " and 4", stairsOf(text + "4"), -77);
         }
-        Due.is("a wrong sign at 75", Tell.stairs(z, right(75) + "x;1,9"), -1 - 75);
-        Due.is("a wrong sign at 74", Tell.stairs(z, right(74) + "x;1,9"), -1 - 74);
-        Due.is("a wrong sign at 0", Tell.stairs(z, "x" + right(79)), -1);
-        Due.is("a wrong sign at 75 that ends there", Tell.stairs(z, right(75) + "x"), -1 - 75);
+        Due.is("a wrong sign at 75", stairsOf(right(75) + "x;1,9"), -1 - 75);
+        Due.is("a wrong sign at 74", stairsOf(right(74) + "x;1,9"), -1 - 74);
+        Due.is("a wrong sign at 0", stairsOf("x" + right(79)), -1);
+        Due.is("a wrong sign at 75 that ends there", stairsOf(right(75) + "x"), -1 - 75);
     }
 
     private static void stairsNumbers() {
@@ -267,22 +273,21 @@ public final class StairsBoundsTest {
         for (int i = 0; i < texts.length; i++) {
             Twins.emptied("stairs() of " + texts[i], -1 - last[i], texts[i], x -> x.stairs());
         }
-        StairsInSteps x = new StairsInSteps();
-        Due.is("RISE 0 at 75, 05 in all", Tell.stairs(x, right(74) + ";05,9"), -1 - 75);
-        Due.is("RISE 0 at 75, and no more", Tell.stairs(x, right(74) + ";0"), -1 - 75);
-        Due.is("RISE 3 at 75, 35 in all", Tell.stairs(x, right(74) + ";35,9"), -77);
-        Due.is("RISE 35 at 74 and 75", Tell.stairs(x, right(73) + ";35,9"), -1 - 75);
-        Due.is("RISE 05 at 74 and 75", Tell.stairs(x, right(73) + ";05,9"), -77);
-        Due.is("STATE 1 at 75, 10 in all", Tell.stairs(x, right(72) + ";1,10,"), -77);
-        Due.is("ASKS 2 at 75, 21 in all", Tell.stairs(x, right(70) + ";1,9,21@"), -77);
-        Due.is("TIMES 0 at 75, 02 in all", Tell.stairs(x, right(66) + ";1,9,1@0*02"), -1 - 75);
-        Due.is("TIMES 2 at 75, 25 in all", Tell.stairs(x, right(66) + ";1,9,1@0*25"), -77);
+        Due.is("RISE 0 at 75, 05 in all", stairsOf(right(74) + ";05,9"), -1 - 75);
+        Due.is("RISE 0 at 75, and no more", stairsOf(right(74) + ";0"), -1 - 75);
+        Due.is("RISE 3 at 75, 35 in all", stairsOf(right(74) + ";35,9"), -77);
+        Due.is("RISE 35 at 74 and 75", stairsOf(right(73) + ";35,9"), -1 - 75);
+        Due.is("RISE 05 at 74 and 75", stairsOf(right(73) + ";05,9"), -77);
+        Due.is("STATE 1 at 75, 10 in all", stairsOf(right(72) + ";1,10,"), -77);
+        Due.is("ASKS 2 at 75, 21 in all", stairsOf(right(70) + ";1,9,21@"), -77);
+        Due.is("TIMES 0 at 75, 02 in all", stairsOf(right(66) + ";1,9,1@0*02"), -1 - 75);
+        Due.is("TIMES 2 at 75, 25 in all", stairsOf(right(66) + ";1,9,1@0*25"), -77);
         String of23 = "1,9,1@0*16;" + Tell.times("1,9,1@0;", 7) + "1,9,1@0*";
         Due.is("75 signs", of23.length(), 75);
-        Due.is("TIMES 1 at 75", Tell.stairs(x, of23 + "1"), 24);
-        Due.is("TIMES 2 at 75", Tell.stairs(x, of23 + "2"), -1 - 75);
-        Due.is("TIMES 1 at 75, 15 in all", Tell.stairs(x, of23 + "15"), -77);
-        Due.is("TIMES 2 at 75, 25 in all", Tell.stairs(x, of23 + "25"), -1 - 75);
+        Due.is("TIMES 1 at 75", stairsOf(of23 + "1"), 24);
+        Due.is("TIMES 2 at 75", stairsOf(of23 + "2"), -1 - 75);
+        Due.is("TIMES 1 at 75, 15 in all", stairsOf(of23 + "15"), -77);
+        Due.is("TIMES 2 at 75, 25 in all", stairsOf(of23 + "25"), -1 - 75);
     }
 
     private static void stairsBehind24() {
@@ -292,13 +297,12 @@ public final class StairsBoundsTest {
             Twins.emptied("a LINE " + line + " behind 24", -1 - 11, "1,9,1@0*24;" + line, x -> x.stairs());
         }
         Twins.emptied("behind 12 and 12", -1 - 22, "1,9,1@0*12;1,9,1@0*12;1,9,1@0", x -> x.stairs());
-        StairsInSteps x = new StairsInSteps();
-        Due.is("behind 23", Tell.stairs(x, "1,9,1@0*23;1,9,1@0"), 24);
+        Due.is("behind 23", stairsOf("1,9,1@0*23;1,9,1@0"), 24);
         String of24 = Tell.times("1,9,1@0;", 8) + "1,9,1@0*16";
         Due.is("74 signs", of24.length(), 74);
-        Due.is("24", Tell.stairs(x, of24), 24);
-        Due.is("at 75", Tell.stairs(x, of24 + ";1,9,1"), -1 - 75);
-        Due.is("at 76", Tell.stairs(x, Tell.times("1,9,1@0;", 8) + "1,9,1@0w*16;1,9"), -1 - 76);
+        Due.is("24", stairsOf(of24), 24);
+        Due.is("at 75", stairsOf(of24 + ";1,9,1"), -1 - 75);
+        Due.is("at 76", stairsOf(Tell.times("1,9,1@0;", 8) + "1,9,1@0w*16;1,9"), -1 - 76);
     }
 
     private static void stairsFewerThan2() {
@@ -381,7 +385,7 @@ public final class StairsBoundsTest {
         for (String[] one : LAWS_GO_ON) {
             int calls = 0;
             StairsInSteps x = new StairsInSteps();
-            for (int sign = 0; sign < 256; sign++, calls += 8) {
+            for (int sign = 0; sign < 256; sign++, calls += 12) {
                 x = calls % 480 == 0 ? new StairsInSteps() : x;
                 boolean stands = one[1].indexOf(sign) >= 0;
                 int answer = Tell.law(x, sign % 2, one[0] + (char) sign);
@@ -402,21 +406,20 @@ public final class StairsBoundsTest {
 
     private static void lawMoreThan40() {
         Due.sentence(5, "(40 signs)");
-        StairsInSteps x = new StairsInSteps();
-        Due.is("39", Tell.law(x, 0, Tell.times("a+", 19) + "a"), 0);
-        Due.is("40", Tell.law(x, 0, Tell.times("a+", 19) + "-a"), 0);
-        Due.is("40 that end too early", Tell.law(x, 0, Tell.times("a+", 20)), -41);
-        Due.is("40 could go on", Tell.law(x, 0, Tell.times("a+", 20) + "a"), -41);
-        Due.is("40 could go on, whatever comes", Tell.law(x, 0, Tell.times("a+", 20) + "?"), -41);
-        Due.is("40 could end", Tell.law(x, 0, Tell.times("a+", 19) + "-a+"), -41);
-        Due.is("40 could end, whatever comes", Tell.law(x, 0, Tell.times("a+", 19) + "-a?"), -41);
-        Due.is("40 and )", Tell.law(x, 0, Tell.times("a+", 19) + "(a)"), -41);
-        Due.is("a number cut", Tell.law(x, 0, Tell.times("a+", 18) + "1+999"), -41);
-        Due.is("three digits end at 39, a fourth", Tell.law(x, 0, Tell.times("a+", 18) + "-9999"), -41);
-        Due.is("three digits end at 38, a fourth", Tell.law(x, 0, Tell.times("a+", 18) + "99999"), -1 - 39);
-        Due.is("a wrong sign at 39", Tell.law(x, 0, Tell.times("a+", 19) + "a?aaa"), -1 - 39);
-        Due.is("a wrong sign at 0", Tell.law(x, 0, Tell.times("?", 80)), -1);
-        Due.is("80 signs", Tell.law(x, 0, Tell.times("-", 80)), -41);
+        Due.is("39", lawOf(Tell.times("a+", 19) + "a"), 0);
+        Due.is("40", lawOf(Tell.times("a+", 19) + "-a"), 0);
+        Due.is("40 that end too early", lawOf(Tell.times("a+", 20)), -41);
+        Due.is("40 could go on", lawOf(Tell.times("a+", 20) + "a"), -41);
+        Due.is("40 could go on, whatever comes", lawOf(Tell.times("a+", 20) + "?"), -41);
+        Due.is("40 could end", lawOf(Tell.times("a+", 19) + "-a+"), -41);
+        Due.is("40 could end, whatever comes", lawOf(Tell.times("a+", 19) + "-a?"), -41);
+        Due.is("40 and )", lawOf(Tell.times("a+", 19) + "(a)"), -41);
+        Due.is("a number cut", lawOf(Tell.times("a+", 18) + "1+999"), -41);
+        Due.is("three digits end at 39, a fourth", lawOf(Tell.times("a+", 18) + "-9999"), -41);
+        Due.is("three digits end at 38, a fourth", lawOf(Tell.times("a+", 18) + "99999"), -1 - 39);
+        Due.is("a wrong sign at 39", lawOf(Tell.times("a+", 19) + "a?aaa"), -1 - 39);
+        Due.is("a wrong sign at 0", lawOf(Tell.times("?", 80)), -1);
+        Due.is("80 signs", lawOf(Tell.times("-", 80)), -41);
         Twins.emptied("41", -41, Tell.times("-", 40) + "a", y -> y.law(0));
         Twins.emptied("41", -41, Tell.times("-", 40) + "a", y -> y.law(1));
     }
