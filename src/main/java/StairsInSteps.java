@@ -305,7 +305,7 @@ public final class StairsInSteps {
         return purses[family];
     }
 
-    // ---- climbs
+    // ---- climbs (from the ground, KNEES and PURSE as told)
 
     public int climb(int pilgrim) {
         Pilgrim one = find(pilgrim);

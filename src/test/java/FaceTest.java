@@ -22,6 +22,8 @@ public final class FaceTest {
         Class<?> face = StairsInSteps.class;
         check("the class is public and final", Modifier.isPublic(face.getModifiers()) && Modifier.isFinal(face.getModifiers()));
         membersAreTheDocuments(face);
+        faceIsWrittenAsInTheDocument();
+        headsAreTheDocuments();
         classesInside(face);
         sourceKeepsToRules();
         System.out.println(wrong == 0 ? "the face is as due" : wrong + " things are not as due");
@@ -66,6 +68,41 @@ public final class FaceTest {
         Collections.sort(due);
         Collections.sort(got);
         check("the face is the document's: " + due + " but is " + got, due.equals(got) && due.size() == 49);
+    }
+
+    /** "The public face": each member with its names and throws, in the document's order. */
+    private static void faceIsWrittenAsInTheDocument() throws Exception {
+        Pattern member = Pattern.compile("(?m)^    (public .*?)(;| \\{)$");
+        List<String> due = new ArrayList<>();
+        Matcher line = member.matcher(Files.readString(DOCUMENT));
+        while (line.find()) {
+            due.add(line.group(1));
+        }
+        List<String> got = new ArrayList<>();
+        line = member.matcher(Files.readString(SOURCE));
+        while (line.find()) {
+            got.add(line.group(1));
+        }
+        check("the face is written as in the document: " + due + " but is " + got, due.equals(got));
+    }
+
+    /** "Ahead of the calls .. the interface says: ---- ..": so does the class, and the calls stand behind it. */
+    private static void headsAreTheDocuments() throws Exception {
+        String source = Files.readString(SOURCE);
+        Matcher head = Pattern.compile("(?m)^Ahead of the calls (.*) the interface says: (---- .*)\\.$").matcher(Files.readString(DOCUMENT));
+        int heads = 0;
+        while (head.find()) {
+            heads++;
+            int at = source.indexOf("    // " + head.group(2) + "\n");
+            check("the class says " + head.group(2), at >= 0);
+            int next = source.indexOf("    // ----", at + 1);
+            String section = at >= 0 && next > at ? source.substring(at, next) : "";
+            Matcher call = Pattern.compile("`(\\w+)`").matcher(head.group(1));
+            while (call.find()) {
+                check(call.group(1) + " stands behind " + head.group(2), section.matches("(?s).*\n    public \\w+ " + call.group(1) + "\\(.*"));
+            }
+        }
+        check("the document has seven heads, not " + heads, heads == 7);
     }
 
     private static void classesInside(Class<?> face) {
